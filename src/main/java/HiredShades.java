@@ -656,16 +656,9 @@ public final class HiredShades {
         int wordHere() {
             skipBlanks();
             wordEnd = place;
-            if (place == gluedPlace) {
-                return NONE;
-            }
-            while (wordEnd < length && isLetter(bytes[wordEnd])) {
+            while (wordEnd < length && isLetter(bytes[wordEnd]) && place != gluedPlace) {
                 wordEnd++;
             }
-            return wordEnd == place ? NONE : ownWord();
-        }
-
-        private int ownWord() {
             int word = 0;
             int like = place;
             for (int k = 0; k < OWN_WORDS.length(); k++) {
@@ -683,14 +676,19 @@ public final class HiredShades {
         }
 
         boolean takeWord(int word) {
-            return passOverWord(word) || failHere();
+            if (wordHere() != word) {
+                return failHere();
+            }
+            return takeWordHere();
         }
 
         /** Takes the OWN WORD if it is there; no FAULT if it isn't. */
         boolean passOverWord(int word) {
-            if (wordHere() != word) {
-                return false;
-            }
+            return wordHere() == word && takeWordHere();
+        }
+
+        /** Takes the word that wordHere() has just found. */
+        boolean takeWordHere() {
             place = wordEnd;
             gluedPlace = place;
             return true;
@@ -698,13 +696,13 @@ public final class HiredShades {
 
         boolean takeNumber(int least, int most) {
             if (!isDigit(skipBlanks()) || place == gluedPlace) {
-                return failHere();
+                return fail(1, place);
             }
             start = place;
             value = 0;
             while (place < length && isDigit(bytes[place])) {
                 if (place - start == MOST_DIGITS) {
-                    return failHere();
+                    return fail(1, place);
                 }
                 value = 10 * value + bytes[place] - '0';
                 place++;
@@ -997,31 +995,28 @@ public final class HiredShades {
             }
             switch (word) {
                 case Word.TRAITS:
-                    return tape.takeWord(word) && readTraits();
+                    return tape.takeWordHere() && readTraits();
                 case Word.PERSON:
-                    return begin(word, Guild.PERSONS) && readPerson();
+                    return begin(Guild.PERSONS) && readPerson();
                 case Word.SHADE:
-                    return begin(word, Guild.SHADES) && readShade();
+                    return begin(Guild.SHADES) && readShade();
                 case Word.PLACE:
-                    return begin(word, Guild.PLACES) && readNewName(Guild.PLACES);
+                    return begin(Guild.PLACES) && readNewName(Guild.PLACES);
                 case Word.ROAD:
-                    return begin(word, Guild.ROADS) && readRoad();
+                    return begin(Guild.ROADS) && readRoad();
                 case Word.SEEN:
-                    return begin(word, Guild.SIGHTINGS) && readSeen();
+                    return begin(Guild.SIGHTINGS) && readSeen();
                 case Word.PRICE:
-                    return begin(word, Guild.RULES) && rules.readRule(into);
+                    return begin(Guild.RULES) && rules.readRule(into);
                 case Word.TITHE:
-                    return tape.takeWord(word) && readTithe();
+                    return tape.takeWordHere() && readTithe();
                 default:
                     return tape.failHere();
             }
         }
 
-        private boolean begin(int word, int kind) {
-            if (!into.hasRoom(kind)) {
-                return tape.fail(5, tape.place);
-            }
-            return tape.takeWord(word);
+        private boolean begin(int kind) {
+            return into.hasRoom(kind) ? tape.takeWordHere() : tape.fail(5, tape.place);
         }
 
         private boolean readTraits() {
@@ -1224,12 +1219,12 @@ public final class HiredShades {
             int word = tape.wordHere();
             if (word == Word.NOT) {
                 return mayOpen(open)
-                        && tape.takeWord(word)
+                        && tape.takeWordHere()
                         && readFact(open + 1)
                         && emit(WORDS - word);
             }
             if (word == Word.ALL) {
-                return tape.takeWord(word) && emit(WORDS - word);
+                return tape.takeWordHere() && emit(WORDS - word);
             }
             if (tape.skipBlanks() == '[') {
                 return mayOpen(open)
@@ -1237,10 +1232,6 @@ public final class HiredShades {
                         && readTest(open + 1)
                         && tape.takeSign(']');
             }
-            return readComparison(open);
-        }
-
-        private boolean readComparison(int open) {
             if (!readSum(open)) {
                 return false;
             }
@@ -1304,19 +1295,16 @@ public final class HiredShades {
                 case Word.WET:
                 case Word.UNLIKE:
                 case Word.PASS:
-                    return tape.takeWord(word) && emit(WORDS - word);
+                    return tape.takeWordHere() && emit(WORDS - word);
                 case Word.MIN:
                 case Word.MAX:
-                    return readOfTwo(word, open) && emit(WORDS - word);
+                    return tape.takeWordHere() && readOfTwo(open) && emit(WORDS - word);
                 default:
                     return tape.failHere();
             }
         }
 
-        private boolean readOfTwo(int word, int open) {
-            if (!tape.takeWord(word)) {
-                return false;
-            }
+        private boolean readOfTwo(int open) {
             if (tape.skipBlanks() != '(') {
                 return tape.failHere();
             }
@@ -1604,6 +1592,7 @@ public final class HiredShades {
 
         private int waysWithPart(int set) {
             int ways = 0;
+            // Each turn own is a smaller set, down to the empty one.
             for (int own = set; own >= 0; own = own == 0 ? NONE : own - 1 & set) {
                 if (part[own] != NONE) {
                     ways += table[set ^ own];
@@ -1638,6 +1627,7 @@ public final class HiredShades {
 
         private int cheapestWithPart(int set) {
             int least = NONE;
+            // Each turn own is a smaller set, down to the empty one.
             for (int own = set; own >= 0; own = own == 0 ? NONE : own - 1 & set) {
                 int rest = table[set ^ own];
                 if (part[own] != NONE && rest != NONE && (least == NONE || part[own] + rest < least)) {
