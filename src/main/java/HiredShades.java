@@ -855,11 +855,6 @@ public final class HiredShades {
                     }
                 }
             }
-            for (int first = 0; first < counts[PLACES]; first++) {
-                for (int second = 0; second < counts[PLACES]; second++) {
-                    hours[first][second] = Math.min(hours[first][second], UNREACHED);
-                }
-            }
         }
 
         /** Puts the SIGHTINGS in order by HOUR, those of one HOUR by their numbers. */
@@ -1020,7 +1015,8 @@ public final class HiredShades {
         }
 
         private boolean readTraits() {
-            for (int trait = 0; trait < MOST_TRAITS; trait++) {
+            boolean isMore = true;
+            for (int trait = 0; trait < MOST_TRAITS && isMore; trait++) {
                 boolean isRead = readNewName(Guild.TRAITS)
                         && readNumber(into.shows[trait], 0, 0, 100)
                         && readNumber(into.shows[trait], 1, 0, 100);
@@ -1028,9 +1024,7 @@ public final class HiredShades {
                     return false;
                 }
                 // The sign ahead of a 7th TRAIT is left for the statement's end to refuse.
-                if (trait == MOST_TRAITS - 1 || !tape.passOver(',')) {
-                    return true;
-                }
+                isMore = trait < MOST_TRAITS - 1 && tape.passOver(',');
             }
             return true;
         }

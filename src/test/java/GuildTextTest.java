@@ -251,6 +251,11 @@ public final class GuildTextTest {
         CHECK.marked(T + "price((((((min^(1,2)))))))when all;", 4);
         CHECK.marked(T + "price((((((min ^1))))))when all;", 1);
         CHECK.marked(T + "price 1 when[[[[[[^[", 4);
+        CHECK.marked(T + "price 1 when all or not not not not not not ^not all;", 4);
+        CHECK.marked(T + "price 1 when all and not not not not not not ^not all;", 4);
+        CHECK.marked(T + "price 1+((((((^(1)))))))when all;", 4);
+        CHECK.marked(T + "price 1*((((((^(1)))))))when all;", 4);
+        CHECK.marked(T + "price 1 when 1<((((((^(1)))))));", 4);
     }
 
     private static void tooManyOfAKind() {
@@ -354,6 +359,10 @@ public final class GuildTextTest {
         holds("[all or all] and 1=2", false);
         holds("not 1=2 and 1=2", false);
         holds("not [1=2 and 1=2]", true);
+        holds("not 1<2", false);
+        holds("not 2>1", false);
+        holds("not 2=2", false);
+        holds("not not 2=2", true);
         holds("not all or all", true);
         holds("not [all or all]", false);
         holds("wet=1 and unlike=1 and light=60 and hour=9 and fee=7 and pass=880", true);

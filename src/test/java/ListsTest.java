@@ -143,6 +143,9 @@ public final class ListsTest {
                 CHECK.due("far of none", x.far(none, first), -1);
             }
         }
+        HiredShades star = Guilds.made("traits t 1 1;place a;place b;place c;place d;road a b 1;road c a 2;road a d 3;");
+        CHECK.due("far through the first", star.far(1, 2), 3);
+        CHECK.due("far through the first", star.far(3, 1), 4);
         HiredShades line = Guilds.made("traits t 1 1;place h;place g;place f;place e;place d;place c;place b;place a;"
                 + "road a b 9;road b c 9;road c d 9;road d e 9;road e f 9;road f g 9;road g h 9;");
         CHECK.due("far along eight", line.far(0, 7), 63);
