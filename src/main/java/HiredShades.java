@@ -659,6 +659,9 @@ public final class HiredShades {
             while (wordEnd < length && isLetter(bytes[wordEnd]) && place != gluedPlace) {
                 wordEnd++;
             }
+            if (wordEnd == place) {
+                return NONE;
+            }
             int word = 0;
             int like = place;
             for (int k = 0; k < OWN_WORDS.length(); k++) {

@@ -6,6 +6,7 @@ public final class TapeTest {
         fillsToItsLimit();
         shortensAlone();
         putsTheHighestByteFirst();
+        forgetsWhatWasCutOff();
         CHECK.end();
     }
 
@@ -35,6 +36,30 @@ public final class TapeTest {
         CHECK.due("end(8)", x.end(8), false);
         CHECK.due("end(-1) of 7", x.end(-1), false);
         CHECK.due("feed behind 7", x.feed(1, 2, 3, 4, 5), 27);
+    }
+
+    private static void forgetsWhatWasCutOff() {
+        cut("traits a 1 10", "1;", 1, 13);
+        cut("traits a 1 1;tithe", "s", 1, 18);
+        cut("traits a 1 1;place abcdef", "g", 1, 25);
+        cut("traits a 1 1;place abcde", "f", 1, 24);
+        cut("traits a 1 1;tithe 1111", "1", 2, 19);
+        cut("traits a 1 1", ";", 1, 12);
+        cut("traits a 1 1;price 1 when all", ";", 1, 29);
+        cut("", "traits a 1 1;", 1, 0);
+        HiredShades x = new HiredShades();
+        Guilds.write(x, Guilds.bytes("traits a 1 1;x"));
+        x.end(13);
+        CHECK.due("guild() of what is left", x.guild(), 1);
+    }
+
+    private static void cut(String left, String off, int fault, int place) {
+        HiredShades x = new HiredShades();
+        Guilds.write(x, Guilds.bytes(left + off));
+        CHECK.due("end", x.end(left.length()), true);
+        CHECK.due("guild() of <" + left + "> without <" + off + ">", x.guild(), -1);
+        CHECK.due("its FAULT", x.fault(0), fault);
+        CHECK.due("its place", x.fault(1), place);
     }
 
     private static void putsTheHighestByteFirst() {
