@@ -1,5 +1,5 @@
 /** Counts the answers that are not the ones that are due; end() tells them and sets the exit code. */
-final class Check {
+class Check {
     private final String name;
     private int count;
     private int wrong;
@@ -16,6 +16,11 @@ final class Check {
                 System.out.println(name + ": " + call + " answered " + got + ", due is " + want);
             }
         }
+    }
+
+    /** How many answers were looked at so far. */
+    int count() {
+        return count;
     }
 
     void due(String call, boolean got, boolean want) {
