@@ -332,6 +332,8 @@ public final class EdgesOfFaultsTest {
         EDGES.marked(T + "price((((((^(", 4);
         EDGES.marked(T + "price min(1,max(2,(((min(^", 1);
         EDGES.marked(T + "price min(1,max(2,((((min^(", 4);
+        EDGES.marked(T + "price min((((((^(", 4);
+        EDGES.marked(T + "price max(1,(((((^(", 4);
         EDGES.marked(T + "price((((((1))))))*((((((^(", 4);
         EDGES.marked(T + "price((((((min ^1))))))when all;", 1);
         EDGES.marked(T + "price((((((^[", 1);

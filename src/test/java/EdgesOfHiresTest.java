@@ -166,6 +166,10 @@ public final class EdgesOfHiresTest {
         EDGES.due("by PASS 0", pass.crew(1, 0, -1), 1);
         EDGES.due("by PASS 1", pass.crew(1, 1, -1), -1);
         EDGES.nothingDone("crew", BUSY, y -> y.crew(22, 0, -1));
+        HiredShades seven = Sightings.seen("pa1 pa2 pa3 pa4 pa5 pa6 pa7");
+        for (int k = 0; k < 7; k++) {
+            EDGES.due("behind ways()", seven.ways(0) > 0 ? seven.crew(127, 0, k) : -1, 0);
+        }
     }
 
     private static void crewsOfNone() {
@@ -316,12 +320,14 @@ public final class EdgesOfHiresTest {
         has(x, 0, 2, 999, 1, 0, 600);
         has(x, 1, 2, 1998, 3, 49, 1000);
         HiredShades most = Guilds.made(Sightings.AHEAD + "seen p at a hour 1 light 1 dry;".repeat(24) + "price 999 when all;");
+        has(most, 1, 0, 0, -1, 0, -1);
         for (int sighting = 23; sighting >= 0; sighting--) {
             most.hire(sighting, 1);
         }
         has(most, 1, 24, 23976, 0, 0, 1000);
         most.hire(0, -1);
         has(most, 1, 23, 22977, 1, 0, 1000);
+        has(Sightings.hired("pa5 pa9 pa7", 0, 0, 0), 0, 3, 9, 0, 4, 1000);
     }
 
     private static void shadesOfNone() {

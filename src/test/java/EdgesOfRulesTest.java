@@ -73,6 +73,11 @@ public final class EdgesOfRulesTest {
             holds(first + ">5", first > 5);
             holds(first + "=5", first == 5);
             holds("not " + first + "<5", first >= 5);
+            holds("not " + first + ">5", first <= 5);
+            holds("not " + first + "=5", first != 5);
+            holds("not not " + first + "=5", first == 5);
+            holds("all and not " + first + "=5", first != 5);
+            holds("1=2 or not " + first + "=5", first != 5);
         }
         holds("1+2*3=7", true);
         holds("7=1+2*3", true);

@@ -255,6 +255,7 @@ public final class EdgesOfStatementsTest {
         has(ahead + "price 4 when 1=2;".repeat(5), 5, 5);
         HiredShades x = has(ahead + "price 4 when 1=2;".repeat(5) + "price 44 when all;", 5, 6);
         EDGES.due("by the sixth RULE", x.price(0, 0), 44);
+        EDGES.due("by none of six", Guilds.made(ahead + "price 4 when 1=2;".repeat(6)).price(0, 0), 1);
         EDGES.marked(ahead + "price 4 when 1=2;".repeat(6) + "^price 4 when all;", 5);
     }
 

@@ -163,6 +163,13 @@ public final class EdgesOfTapeTest {
         EDGES.due("feed behind 12", x.feed(0x30303b20, 0x20202020, 0x20202020, 0x20202020, 0x20202020), 32);
         EDGES.due("guild()", x.guild(), 1);
         EDGES.due("what was cut off is gone", x.trait(0, -1, 1), 100);
+        cutOff("traits a 1 1", "0;", 1, 12);
+        cutOff("traits a 1 101", "1", 2, 11);
+        cutOff("trait", "s", 1, 0);
+        cutOff("traits abcdef", "g", 1, 13);
+        cutOff("traits a 1 1", ";", 1, 12);
+        cutOff("traits a 1 1,", "b", 1, 13);
+        cutOff("", "traits a 1 1;", 1, 0);
         Guilds.write(x, Guilds.bytes("traits a 1 1;"));
         EDGES.due("end(0)", x.end(0), true);
         EDGES.due("feed", x.feed(0, 0, 0, 0, 0), 20);
@@ -171,6 +178,15 @@ public final class EdgesOfTapeTest {
         EDGES.due("end(1) again", x.end(1), true);
         fill(x, 1600);
         EDGES.due("end(1600)", x.end(1600), true);
+    }
+
+    private static void cutOff(String left, String off, int fault, int place) {
+        HiredShades x = new HiredShades();
+        Guilds.write(x, Guilds.bytes(left + off));
+        EDGES.due("end", x.end(left.length()), true);
+        EDGES.due("guild() of <" + left + "> without <" + off + ">", x.guild(), -1);
+        EDGES.due("its FAULT", x.fault(0), fault);
+        EDGES.due("its place", x.fault(1), place);
     }
 
     private static void endsRefused() {
@@ -208,9 +224,38 @@ public final class EdgesOfTapeTest {
         for (int what = 0; what < 9; what++) {
             EDGES.due("nothing is left of another: has(" + what + ")", x.has(what), want[what]);
         }
+        leavesNothingBehind();
         Guilds.tell(x, "traits a 1 1;place a^;");
         EDGES.due("the tape went with a FAULT, too", x.end(1), false);
         EDGES.due("feed", x.feed(0, 0, 0, 0, 0), 20);
+    }
+
+    /** A GUILD is the same behind others, right ones and ones with a FAULT, as it is at first. */
+    private static void leavesNothingBehind() {
+        String ahead = "traits t 1 1;person p 1;place a;place b;shade s fee 9 1 fakes 0;shade u fee 8 2 fakes 0;";
+        String[] texts = {
+            ahead + "seen p at a hour 9 light 9 dry;seen p at a hour 1 light 9 dry;seen p at b hour 5 light 99 dry;tithe 77;",
+            ahead + "road a b 1;".repeat(20) + "seen p at b hour 3 light 9 dry;price " + "1+".repeat(500) + "1 when all;",
+            ahead + "seen p at a hour 1 light 9 dry;seen p at b hour 9 light 50 rain;" + "price 7 when 1=2;".repeat(5),
+            ahead + "seen p at b hour 1 light 9 dry;seen p at b hour 9 light 50 rain;price 7 when 1=2;",
+            "traits x 1 1;",
+        };
+        String[] faulty = {"traits t 101 1;", texts[0] + "tithe 101;", texts[1] + "x;", texts[2] + "price 1 when all",
+            texts[0] + "seen p at b hour 1 light 1 dry"};
+        HiredShades x = new HiredShades();
+        for (int turn = 0; turn < 60; turn++) {
+            String text = texts[turn * 3 % 5];
+            if (turn >= 20) {
+                Guilds.tell(x, faulty[(turn + turn / 20) % 5]);
+            }
+            Guilds.tell(x, text);
+            x.image();
+            x.seed(turn);
+            HiredShades y = Guilds.made(text);
+            y.image();
+            y.seed(turn);
+            EDGES.due("turn " + turn, Probe.ofAll(x).equals(Probe.ofAll(y)), true);
+        }
     }
 
     private static void guildsWithFaultsLeaveAll() {

@@ -84,6 +84,9 @@ public final class EdgesOfTermsTest {
                 + "road a h 9;road h b 9;road b g 9;road g c 9;road c f 9;road f d 9;road d e 9;");
         EDGES.due("through all eight", line.far(0, 4), 63);
         EDGES.due("through all eight, back", line.far(4, 0), 63);
+        HiredShades star = Guilds.made("traits t 1 1;place a;place b;place c;place d;road a b 1;road a c 2;road d a 4;");
+        EDGES.due("through the first", star.far(1, 2), 3);
+        EDGES.due("through the first", star.far(3, 1), 5);
         HiredShades ring = Guilds.made("traits t 1 1;place a;place b;place c;place d;"
                 + "road a b 1;road b c 1;road c d 1;road d a 4;");
         EDGES.due("the other way round is fewer", ring.far(0, 3), 3);

@@ -46,6 +46,12 @@ final class Probe {
         for (int place = 1; place < x.has(3); place++) {
             tell(x.far(0, place));
         }
+        for (int person = 0; person < x.has(1); person++) {
+            tell(x.chain(person, -1), x.chain(person, 0));
+        }
+        for (int shade = 0; shade < x.has(2); shade++) {
+            tell(x.shade(shade, 2), x.shade(shade, 3));
+        }
         for (int sighting = 0; sighting < x.has(4); sighting++) {
             for (int what = 0; what < 6; what++) {
                 tell(x.seen(sighting, what));
@@ -69,7 +75,7 @@ final class Probe {
         }
         // Drawn for by hand, that the seed is told even where nobody was HIRED.
         if (x.hire(0, 0)) {
-            tell(x.days(100, 0), x.days(100, 1));
+            tell(x.hire(1, 0) ? 1 : 0, x.days(100, 0), x.days(100, 1), x.shade(0, 2), x.shade(0, 3));
         }
     }
 
