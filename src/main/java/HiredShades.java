@@ -640,7 +640,11 @@ public final class HiredShades {
         }
 
         boolean takeSign(int sign) {
-            return passOver(sign) || failHere();
+            if (skipBlanks() != sign) {
+                return fail(1, place);
+            }
+            place++;
+            return true;
         }
 
         /** Takes the sign if it is there; no FAULT if it isn't. */
