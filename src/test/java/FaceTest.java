@@ -107,6 +107,39 @@ public final class FaceTest {
         for (char c : source.toCharArray()) {
             CHECK.due("sign " + (int) c, c == '\n' || (c >= 32 && c < 127), true);
         }
+        usesItsLibraryAlone(code);
+        hasShortMethods(code);
+    }
+
+    private static void usesItsLibraryAlone(String code) {
+        List<String> free = List.of("Math.max", "Math.min", "Math.abs", "Math.floorDiv", "Math.floorMod",
+                "Integer.bitCount", "System.arraycopy", "Arrays.fill", "Arrays.copyOf");
+        Matcher used = Pattern.compile("\\b(?:Math|Integer|Long|System|Arrays|String|Character|Object)\\.\\w+")
+                .matcher(code);
+        while (used.find()) {
+            CHECK.due(used.group() + " is in LANGUAGE.md", free.contains(used.group()), true);
+        }
+    }
+
+    /** A method begins and ends with lines of one indent: four blanks outside, eight in a class inside. */
+    private static void hasShortMethods(String code) {
+        String[] lines = code.split("\n");
+        int methods = 0;
+        for (int first = 0; first < lines.length; first++) {
+            boolean isMethod = lines[first].matches(" {4}(?: {4})?[A-Za-z].*\\) \\{")
+                    && !lines[first].matches(" {8}(?:if|for|while|switch|do)\\b.*");
+            if (!isMethod) {
+                continue;
+            }
+            String end = lines[first].startsWith("        ") ? "        }" : "    }";
+            int last = first;
+            while (last < lines.length && !lines[last].equals(end)) {
+                last++;
+            }
+            CHECK.due("short: " + lines[first].trim(), last - first < 60, true);
+            methods++;
+        }
+        CHECK.due("methods: " + methods, methods > 100, true);
     }
 
     private static int callAll(HiredShades x) {
